@@ -141,5 +141,13 @@ public final class BinTest {
     for (int i = 0; i < 12; i++) due.is("the other way", x.reach(tower[i]), i + 1);
     for (int i = 0; i < 12; i++) due.is("pick(" + tower[i] + ")", x.pick(tower[i]), 1);
     due.is("count(7)", x.count(7), 0);
+    x = bin(12);
+    for (int i = 0; i + 1 < 12; i++) x.on(i + 1, i);
+    due.is("the last on top, stuck()", x.stuck(), 0);
+    for (int i = 0; i < 12; i++) due.is("the last on top", x.reach(i), 12 - i);
+    x = bin(12);
+    for (int i = 0; i + 1 < 12; i++) x.on(i, i + 1);
+    due.is("the first on top, stuck()", x.stuck(), 0);
+    for (int i = 0; i < 12; i++) due.is("the first on top", x.reach(i), i + 1);
   }
 }

@@ -7,6 +7,7 @@ public final class CountsTest {
     count();
     digestOfNew();
     digestOfAll();
+    digestOfHolding();
     digestTellsApart();
     refusalsChangeNothing();
     due.end();
@@ -87,6 +88,14 @@ public final class CountsTest {
     told[at++] = 4 + 8;
     due.is("holds()", x.holds(), 0);
     due.is("digest()", x.digest(), digestOf(told));
+  }
+
+  private static void digestOfHolding() {
+    due.run("digest where they hold");
+    GripBench x = Told.fingers(Told.square(), 0, 2, 1, 6, 2, 2, 3, 6);
+    long want = digestOf(4, 4, 0, 0, 0, 0, 0, 0, 0, 0, 10, 0, 10, 10, 0, 10, 0, 160, 3200, -160, 0, 9600,
+        0, -160, -9600, 160, 0, -3200, 1, 81, 0);
+    due.is("digest()", x.digest(), want);
   }
 
   private static void digestTellsApart() {

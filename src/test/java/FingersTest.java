@@ -13,6 +13,7 @@ public final class FingersTest {
     pushOfFriction();
     holds();
     witness();
+    firstWitness();
     witnessRefused();
     witnessWithFriction();
     free();
@@ -99,6 +100,13 @@ public final class FingersTest {
       due.is("push(" + t + ", 2)", x.push(t, 2), places[t][0] * pushes[t][1] - places[t][1] * pushes[t][0]);
     }
     due.is("push(4, 0)", x.push(4, 0), BAD);
+    x = Told.fingers(Told.square(), 0, 0, 0, 1, 0, 2, 0, 3, 0, 4, 0, 5, 0, 6, 3, 4);
+    x.friction(2);
+    long[] last = {160, -20, -6400, 160, 20, -6400};
+    for (int i = 0; i < 6; i++) due.is("push of the eighth " + i, x.push(14 + i / 3, i % 3), last[i]);
+    due.is("push(16, 0)", x.push(16, 0), BAD);
+    x.friction(0);
+    due.is("push(8, 0)", x.push(8, 0), BAD);
   }
 
   private static void holds() {
@@ -168,9 +176,29 @@ public final class FingersTest {
     due.is("holds()", x.holds(), 0);
     due.is("witness", x.witness(0) == 0 && x.witness(1) == 0 && x.witness(2) == 0 ? 1 : 0, 0);
     noneBelow(x);
-    // The first two have some on both sides.
-    x = Told.fingers(Told.square(), 0, 4, 1, 4, 2, 2, 3, 6, 0, 6);
-    if (x.holds() == 0) noneBelow(x);
+    // Four through 0, 0 and one beside: the one half is that of the turn alone.
+    x = Told.fingers(Told.part(-5, -5, 5, -5, 5, 5, -5, 5), 0, 4, 1, 4, 2, 4, 3, 4, 0, 6);
+    due.is("a turn, witness(0)", x.witness(0), 0);
+    due.is("a turn, witness(1)", x.witness(1), 0);
+    due.is("a turn, witness(2)", x.witness(2), 25600);
+    due.is("a turn, holds()", x.holds(), 0);
+    x.move(4, 0, 2);
+    due.is("a turn back, witness(2)", x.witness(2), -25600);
+  }
+
+  /** The first pair in the row counts, though a later one would do as well. */
+  private static void firstWitness() {
+    due.run("the first witness");
+    // -160 0 3200, 0 160 3200, 0 160 9600: with u 0, v 1 the third is on one side, above 0 or below.
+    GripBench x = Told.fingers(Told.square(), 1, 2, 0, 2, 0, 6);
+    due.is("witness(0)", x.witness(0), 512000);
+    due.is("witness(1)", x.witness(1), -512000);
+    due.is("witness(2)", x.witness(2), 25600);
+    // 0 160 6400 has 0 160 3200 and 0 160 9600 about it: pairs with it at u are passed over, but for the last.
+    x = Told.fingers(Told.square(), 0, 4, 0, 2, 0, 6, 1, 2);
+    due.is("witness(0)", x.witness(0), -512000);
+    due.is("witness(1)", x.witness(1), 0);
+    due.is("witness(2)", x.witness(2), 0);
   }
 
   private static void noneBelow(GripBench x) {
@@ -257,6 +285,39 @@ public final class FingersTest {
       due.is("friction " + f, x.slip(), (f - 1) / 4);
     }
     slipOfAll();
+    slipByTrying();
+  }
+
+  /** SLIP is asked of many hands; what is due is found by trying all places on the bench itself. */
+  private static void slipByTrying() {
+    due.run("slip by trying");
+    int number = 1;
+    for (int hand = 0; hand < 1200; hand++) {
+      GripBench x = hand % 2 == 0 ? new GripBench() : Told.part(0, 0, 30, 0, 30, 4, 0, 4);
+      int size = 2 + hand % 3;
+      int[] stands = new int[2 * size];
+      for (int i = 0; i < 2 * size; i++) {
+        number = number * 1103515245 + 12345;
+        stands[i] = (number >>> 16) % (i % 2 == 0 ? x.count(0) : 9);
+      }
+      Told.fingers(x, stands);
+      x.friction(hand % 17);
+      int got = x.slip();
+      int most = -1;
+      for (int d = 0; d <= 8; d++) if (holdsAround(x, stands, 0, d)) most = d;
+      due.is(java.util.Arrays.toString(stands) + " and friction " + hand % 17, got, most);
+    }
+  }
+
+  private static boolean holdsAround(GripBench x, int[] stands, int finger, int d) {
+    if (2 * finger == stands.length) return x.holds() == 1;
+    int edge = stands[2 * finger];
+    int k = stands[2 * finger + 1];
+    for (int step = -1; step <= 1; step++) {
+      x.move(finger, edge, Math.max(0, Math.min(8, k + step * d)));
+      if (!holdsAround(x, stands, finger + 1, d)) return false;
+    }
+    return true;
   }
 
   /** FRICTION, what is due, then EDGE and k of each FINGER, on a bar of 30 by 4. */

@@ -139,11 +139,17 @@ public final class PartTest {
       {8, 8, 1}, {32, 31, 1}, {32, 32, 2}, {32, 33, 0}, {31, 33, 2}, {16, 32, 1}, {48, 32, 1}, {0, 0, 2},
       {64, 64, 2}, {0, 64, 2}, {64, 32, 2}, {65, 32, 0}, {-1, 32, 0}, {0, 32, 2}, {32, 0, 2}, {32, -1, 0},
       {8, 64, 0}, {8, 57, 0}, {8, 56, 2}, {8, 55, 1}, {56, 55, 1}, {56, 57, 0}, {-5, 64, 0}, {-5, 0, 0},
-      {70, 0, 0}, {1000, 1000, 0}, {-1000, -1000, 0}, {-1000, 32, 0}
+      {70, 0, 0}, {30, 63, 0}, {1, 62, 1}, {1000, 1000, 0}, {-1000, -1000, 0}, {-1000, 32, 0}
     };
     for (int[] a : asked) due.is("isIn(" + a[0] + ", " + a[1] + ")", x.isIn(a[0], a[1]), a[2]);
     int[][] bad = {{1001, 0}, {-1001, 0}, {0, 1001}, {0, -1001}, {Integer.MIN_VALUE, 0}, {0, Integer.MAX_VALUE}};
     for (int[] b : bad) due.is("isIn(" + b[0] + ", " + b[1] + ")", x.isIn(b[0], b[1]), -2);
+    x = Told.part(0, 0, 8, 0, 8, 8, 8, 8, 0, 8);
+    due.is("a corner told twice", x.isIn(64, 64), 2);
+    due.is("left of it", x.isIn(63, 64), 2);
+    due.is("right of it", x.isIn(65, 64), 0);
+    due.is("above it", x.isIn(64, 65), 0);
+    due.is("in by one each way", x.isIn(63, 63), 1);
     x = new GripBench();
     due.is("on the slope", x.isIn(40, 40), 2);
     due.is("below the slope", x.isIn(40, 39), 1);

@@ -29,9 +29,11 @@ public final class SheetsTest {
     for (int s = 0; s < 4; s++) due.is("put", x.put(s, s % 3, 59, s + 1), 1);
     for (int s = 0; s < 4; s++) due.is("get", x.get(s, s % 3, 59), s + 1);
     for (int s = 0; s < 4; s++) due.is("get", x.get(s, s % 3, 0), 0);
+    due.is("put", x.put(0, 0, 0, 5), 1);
     due.is("get", x.get(0, 0, 60), LEAST);
     due.is("a new row", x.sheet(0, 2, 60), 60);
-    due.is("its items are 0", x.get(0, 2, 59), 0);
+    for (int i = 0; i < 60; i++) due.is("its items are 0", x.get(0, 2, i), 0);
+    due.is("the next row stays", x.get(1, 1, 59), 2);
     due.is("sheet(0, -1 refused)", x.sheet(0, 0, -1), -15);
     due.is("the row stays", x.get(0, 2, 59), 0);
     due.is("an empty row", x.sheet(0, 1, 0), 0);
