@@ -16,6 +16,7 @@ public final class FingersBoundsTest {
     pushOfEach();
     farthestPush();
     threeOfWhichNone();
+    justBelowNone();
     noneBelowOrNoneAbove();
     firstOfAllPairs();
     partsOfWitness();
@@ -213,6 +214,19 @@ public final class FingersBoundsTest {
         due.is("off by " + (k - 4) + " with " + f, x.holds(), f > 2 * (k - 4) ? 1 : 0);
       }
     }
+  }
+
+  /** "0 or above": the least that a product was found to be, but 0, is 8; where it is 8 below, that is below. */
+  private static void justBelowNone() {
+    due.run("11: just below 0");
+    GripBench x = Told.fingers(Told.part(-1, -1, 0, 1, -1, 0, -1, 1), 2, 1, 1, 8, 0, 2);
+    x.friction(5);
+    due.is("by 8", x.holds(), 1);
+    due.is("no WITNESS", x.witness(0), NOT);
+    // Four whose lines go through 0, 0 turn by 0, the fifth by more: 0, 0, 1 has products of 0 and above.
+    x = Told.fingers(Told.part(-1, -1, 1, -1, 1, 1, -1, 1), 0, 4, 1, 4, 2, 4, 3, 4, 0, 5);
+    due.is("by none", x.holds(), 0);
+    due.is("its turn", x.witness(2), 32L * 32);
   }
 
   /** Promise 12: c turned about where none has a product above 0, as it is where none has one below. */

@@ -325,23 +325,20 @@ public final class PartBoundsTest {
       {0, 3, 3, 0, 6, 3, 3, 6}, {0, 0, 8, 4, 0, 8, 4, 4}, {8, 0, 8, 8, 4, 4, 0, 8, 0, 0, 4, 3}
     };
     for (int[] part : parts) {
-      Pair pair = new Pair(due);
-      pair.call(29, 1, 0, part.length);
-      for (int i = 0; i < part.length; i++) pair.call(31, 1, 0, i, part[i]);
-      pair.call(0, 1, part.length / 2);
+      Pair pair = told(part);
       due.is("it is told", pair.bench.count(0), part.length / 2);
       int asked = 0;
       for (int px = -3; px <= 67; px++) {
         for (int py = -3; py <= 67; py++) {
           // An object is used for 512 calls: then another is told the same.
-          if (++asked % 450 == 0) pair = again(part);
+          if (++asked % 450 == 0) pair = told(part);
           pair.call(3, px, py);
         }
       }
     }
   }
 
-  private static Pair again(int[] part) {
+  private static Pair told(int[] part) {
     Pair pair = new Pair(due);
     pair.call(29, 1, 0, part.length);
     for (int i = 0; i < part.length; i++) pair.call(31, 1, 0, i, part[i]);
