@@ -7,6 +7,8 @@ public final class GripBench {
     public static final int NONE = -1, BAD = -2, NOT = -3, FULL = -4;
 
     private static final int NULL = 1, INDEX = 2, CAST = 3, STORE = 4, SIZE = 5;
+    private static final int LEAST_INT = -2147483648;
+    private static final long LEAST_LONG = -9223372036854775808L;
     private static final int EIGHTHS = 8;
     private static final int MOST_CORNERS = 10;
     private static final int FARTHEST_CORNER = 30;
@@ -443,12 +445,12 @@ public final class GripBench {
 
     public int get(int s, int form, int i) {
         if (!isSheet(s) || !isForm(form)) {
-            return Integer.MIN_VALUE;
+            return LEAST_INT;
         }
         int fault = sheets.faultAt(s, form, i);
         if (fault != 0) {
             sheets.find(fault);
-            return Integer.MIN_VALUE;
+            return LEAST_INT;
         }
         return sheets.value(s, i);
     }
@@ -514,7 +516,7 @@ public final class GripBench {
     // ---- what numbers may be
 
     private static long refusal(int code) {
-        return Long.MIN_VALUE - code;
+        return LEAST_LONG - code;
     }
 
     private static boolean isWithin(int v, int most) {

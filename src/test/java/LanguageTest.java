@@ -29,6 +29,7 @@ public final class LanguageTest {
     face();
     classes();
     words(withoutComments(Files.readString(SOURCE)));
+    library(withoutComments(Files.readString(SOURCE)));
     rowsAreMadeOnce(withoutComments(Files.readString(SOURCE)));
     shortMethods(Files.readAllLines(SOURCE));
     due.end();
@@ -104,6 +105,17 @@ public final class LanguageTest {
     for (String sign : new String[] {"->", "::", "static {", "\""}) due.yes(sign, !source.contains(sign));
     due.yes("no name ends in Exact", !source.contains("Exact("));
     due.yes("plain signs", source.chars().allMatch(sign -> sign < 127));
+  }
+
+  private static void library(String source) {
+    due.run("the library");
+    Set<String> own = new HashSet<>();
+    for (Class<?> c : GripBench.class.getDeclaredClasses()) own.add(c.getSimpleName());
+    Matcher named = Pattern.compile("\\b([A-Z]\\w*)\\.\\w+").matcher(source);
+    while (named.find()) {
+      boolean isListed = Set.of("Math.min", "Math.max", "Integer.bitCount").contains(named.group());
+      due.yes(named.group(), isListed || own.contains(named.group(1)));
+    }
   }
 
   /** Objects are made in constructors and for fields alone: so a run makes as many as it makes benches. */
