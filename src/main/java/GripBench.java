@@ -198,7 +198,7 @@ public final class GripBench {
         return 0;
     }
 
-    /** Whether they hold wherever each finger stands at its k less d, k, or k and d. */
+    /** Asks of d less, d more and neither alone, not of what is between: so the document tells it. */
     private boolean isHeldWithin(int d) {
         int ways = 1;
         for (int i = 0; i < hand.size() && i < MOST_FINGERS_TO_SLIP; i++) {
@@ -212,7 +212,7 @@ public final class GripBench {
         return true;
     }
 
-    /** Lays out one way to slip (a digit to the base 3 a finger); false if another way is the same. */
+    /** A way is a digit to the base 3 a finger; false, if it is cut to one that is asked anyhow. */
     private boolean slide(int way, int d) {
         trial.become(hand);
         int rest = way;
@@ -272,14 +272,14 @@ public final class GripBench {
         if (!isPlace(x, y) || !isWeight(w) || s < 0 || s > MOST_SEAL) {
             return BAD;
         }
-        return polygon.side(x, y) != 0 && polygon.isSealed(polygon.pull(x, y, w), s) ? 1 : 0;
+        return polygon.side(x, y) != Polygon.OUT && polygon.isSealed(polygon.pull(x, y, w), s) ? 1 : 0;
     }
 
     public int seal(int x, int y, int w) {
         if (!isPlace(x, y) || !isWeight(w)) {
             return BAD;
         }
-        if (polygon.side(x, y) == 0) {
+        if (polygon.side(x, y) == Polygon.OUT) {
             return NOT;
         }
         return polygon.leastSeal(polygon.pull(x, y, w));
@@ -332,7 +332,7 @@ public final class GripBench {
             boolean feltNothing = sheets.hasValue(FELT_SHEET, i, 0);
             if (feltPart || feltNothing) {
                 int side = polygon.side(EIGHTHS * (probes.x(i) - dx), EIGHTHS * (probes.y(i) - dy));
-                if (feltPart != (side != 0)) {
+                if (feltPart != (side != Polygon.OUT)) {
                     return false;
                 }
             }
@@ -573,6 +573,7 @@ public final class GripBench {
 
     /** The polygon, its area and its middle. */
     private static final class Polygon {
+        static final int OUT = 0, IN = 1, RIM = 2;
         private static final long SURELY_SEALED = 2000000000L;
         private static final int SURELY_ENOUGH = 1 << 30;
 
@@ -595,7 +596,7 @@ public final class GripBench {
             setItem(ys, i, y);
         }
 
-        /** Takes the first n corners as all there are. */
+        /** The sums are kept, as they are asked far more often than the part is told. */
         void close(int n) {
             corners = n;
             area = 0;
@@ -646,7 +647,6 @@ public final class GripBench {
             return item(ys, next(edge)) - item(ys, edge);
         }
 
-        /** Where a place in eighths is: 2 on the rim, 1 in, 0 out. */
         int side(int px, int py) {
             boolean odd = false;
             for (int i = 0; i < corners; i++) {
@@ -658,16 +658,19 @@ public final class GripBench {
                 // Above 0, if the place is left of the edge, seen from its beginning.
                 int turn = fromX * toY - fromY * toX;
                 if (turn == 0 && fromX * toX <= 0 && fromY * toY <= 0) {
-                    return 2;
+                    return RIM;
                 }
                 if (toY > 0 ? fromY <= 0 && turn > 0 : fromY > 0 && turn < 0) {
                     odd = !odd;
                 }
             }
-            return odd ? 1 : 0;
+            return odd ? IN : OUT;
         }
 
-        /** The square of the weight times its way from the middle, times the square of 3 areas: below 4e17. */
+        /**
+         * The square of the weight times its way from the middle, and times the square of 3 areas, so that nothing
+         * is divided; below 4e17, as it is asked of places on the part alone.
+         */
         long pull(int px, int py, int weight) {
             long wayX = 3L * area * px - (long) EIGHTHS * momentX;
             long wayY = 3L * area * py - (long) EIGHTHS * momentY;
@@ -756,7 +759,6 @@ public final class GripBench {
             return which == 0 ? item(forcesX, t) : which == 1 ? item(forcesY, t) : item(turns, t);
         }
 
-        /** Becomes the row of the triples of these fingers. */
         void press(Hand hand, Polygon polygon, int friction) {
             size = 0;
             for (int i = 0; i < hand.size(); i++) {
@@ -780,7 +782,7 @@ public final class GripBench {
             size++;
         }
 
-        /** How they lie: FLAT, in a HALF (then normal() tells the first one found), or WHOLE. */
+        /** Ends at the first two that have all on one side, so that normal() is the witness. */
         int spread() {
             int spread = FLAT;
             for (int u = 0; u < size; u++) {
@@ -810,7 +812,7 @@ public final class GripBench {
             return which == 0 ? crossX : which == 1 ? crossY : crossTurn;
         }
 
-        /** Takes the cross product of two; false if it is 0. */
+        /** False, if it is 0: then the two tell nothing of how all lie. */
         private boolean cross(int u, int v) {
             long ux = item(forcesX, u);
             long uy = item(forcesY, u);
@@ -870,7 +872,7 @@ public final class GripBench {
             return sum;
         }
 
-        /** Cheaper, or as cheap with fewer; of those that are like, the one asked first stays. */
+        /** Sets are asked from the least bits on: so of those that are alike the one that is there stays. */
         boolean isBetter(int set, int best) {
             int less = price(best) - price(set);
             return less > 0 || less == 0 && Integer.bitCount(set) < Integer.bitCount(best);
@@ -1037,7 +1039,6 @@ public final class GripBench {
             return latestFinding;
         }
 
-        /** Keeps the finding and says how it is answered. */
         int find(int number) {
             latestFinding = number;
             return -10 - number;
@@ -1081,7 +1082,7 @@ public final class GripBench {
             setItem(items, s * MOST_ITEMS + i, kept);
         }
 
-        /** The finding that stands against item i of a sheet treated as of a form; 0 if none does. */
+        /** 0, if there is none. */
         int faultAt(int s, int form, int i) {
             if (isLost(s)) {
                 return NULL;
